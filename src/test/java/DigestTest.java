@@ -1,0 +1,77 @@
+/** Promise 38: the digest, told anew from the other calls. */
+public final class DigestTest {
+    private static final Checks CHECKS = new Checks("DigestTest");
+
+    private long h;
+
+    private void mix(long... answers) {
+        for (long answer : answers) {
+            h = 31 * h + answer;
+        }
+    }
+
+    private long told(BishopsPeace x) {
+        h = 17;
+        for (int what = 0; what <= 7; what++) {
+            mix(x.count(what));
+        }
+        mix(x.fault());
+        for (int r = 0; r < x.count(0); r++) {
+            mix(x.road(r, 0), x.road(r, 1), x.road(r, 2));
+        }
+        for (int it = 0; it < 8; it++) {
+            mix(x.left(0, it), x.left(2, it), x.best(it), x.next(50, it, 0), x.next(50, it, 1));
+            mix(x.siege(it, 7, 99, 0), x.siege(it, 7, 99, 1), x.holds(it, 7, 99), x.season(7, it));
+        }
+        for (int it = 1; it < 8; it++) {
+            mix(x.way(0, it, 0), x.way(0, it, 1), x.raid(0, it, 2, 0));
+            mix(x.home(it, 0, 30, -4), x.home(it, 0, 30, -3), x.home(it, 0, 30, -2), x.home(it, 0, 30, 1));
+        }
+        for (int one = 0; one < 4; one++) {
+            for (int other = 0; other < 4; other++) {
+                mix(x.strikes(30, 0, one, other));
+            }
+        }
+        mix(x.unlike(0, 1), x.unlike(0, 2), x.unlike(0, 3));
+        mix(x.agree(0), x.agree(1), x.agree(2), x.middle(0), x.middle(1), x.middle(2), x.which());
+        return h;
+    }
+
+    private static void digestIsTold(String why, BishopsPeace x) {
+        CHECKS.due("38: " + why, x.digest(), new DigestTest().told(x));
+        CHECKS.due("38: once more, " + why, x.digest(), new DigestTest().told(x));
+    }
+
+    public static void main(String[] args) {
+        BishopsPeace x = new BishopsPeace();
+        digestIsTold("a new object", x);
+        Checks.typeAll(x, "ab1;bc2;ch3;hg4;ad9;de2");
+        digestIsTold("with roads", x);
+        x.type(';');
+        digestIsTold("with a FAULT", x);
+        x.undo();
+        x.bell(1, 0, 3);
+        x.bell(2, 1, 5);
+        x.bell(3, 0, 22);
+        x.land(1, 0, 1);
+        x.land(2, 0, 2);
+        x.land(3, 0, 3);
+        x.land(4, 1, 1);
+        x.land(1, 2, 9);
+        digestIsTold("with bells and lands", x);
+        x.feast(2);
+        x.feast(15);
+        x.lent(2);
+        x.set(0, 3);
+        x.set(1, 1);
+        x.seen(7, 1, 1);
+        x.seen(9, 2, 0);
+        digestIsTold("with feasts, LENT, a siege, what was seen", x);
+        long before = x.digest();
+        x.sheet(0, 0, 5);
+        x.lay(0, 1, 0, 5);
+        CHECKS.due("38: sheets and findings aside", x.digest(), before);
+        CHECKS.due("38: the finding stays", x.count(8), 3);
+        CHECKS.end();
+    }
+}
