@@ -42,7 +42,29 @@ public final class DigestTest {
         CHECKS.due("38: once more, " + why, x.digest(), new DigestTest().told(x));
     }
 
+    // States in which each number that the digest's calls are given tells: 11 or 17 HOURS of war in all, or one a WEEK.
+    private static void fewHours() {
+        BishopsPeace x = Checks.withRoads("ab1;bc1");
+        x.land(1, 1, 1);
+        digestIsTold("land 1 is sworn", x);
+        x.land(1, 1, 0);
+        x.feast(1);
+        x.feast(2);
+        x.lent(14);
+        x.set(0, 6);
+        x.set(1, 0);
+        digestIsTold("17 hours of war from HOUR 7 on", x);
+        x.set(0, 1);
+        digestIsTold("stones are left", x);
+        x.set(0, 9);
+        x.bell(0, 0, 13);
+        digestIsTold("11 hours of war", x);
+        x.bell(0, 0, 23);
+        digestIsTold("one hour of war", x);
+    }
+
     public static void main(String[] args) {
+        fewHours();
         BishopsPeace x = new BishopsPeace();
         digestIsTold("a new object", x);
         Checks.typeAll(x, "ab1;bc2;ch3;hg4;ad9;de2");

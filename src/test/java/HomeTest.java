@@ -67,9 +67,13 @@ public final class HomeTest {
     }
 
     private static void detours() {
-        // No land twice: to wait by going to and fro is no way.
-        BishopsPeace x = Checks.withRoads("ab1;bc1;bd9");
-        homeIs("no land twice", x, call(0, 2, 60), 3, 4, 2, 0, 1, 2);
+        // To and fro they would wait until there is peace in b, but no land is come to twice.
+        BishopsPeace first = Checks.withRoads("ab1;bc1;ad9");
+        homeIs("the first land not twice", first, call(0, 2, 60), 3, 4, 2, 0, 1, 2);
+        BishopsPeace later = Checks.withRoads("ad1;db1;bc1;de9");
+        later.land(3, 1, 1);
+        later.land(4, 1, 1);
+        homeIs("a later land not twice", later, call(0, 2, 60), 3, 4, 3, 0, 3, 1, 2);
         BishopsPeace round = Checks.withRoads("ab1;bc1;ad9;db9");
         homeIs("a round way that comes in peace", round, call(0, 2, 60), 1, 1, 19, 0, 3, 1, 2);
         round.bell(0, 1, 23);
@@ -113,6 +117,11 @@ public final class HomeTest {
         agreeIs(withBells(9, 1, 1, 9, 9, 1, 1, 8), 2, 9, 1);
         agreeIs(withBells(5, 0, 4, 23, 4, 22, 6, 6), 3, 4, 22);
         agreeIs(withBells(23, 23, 23, 22, 22, 23, 23, 21), 3, 22, 23);
+        agreeIs(withBells(1, 1, 2, 2, 3, 3, 4, 4), 3, 1, 1);
+        agreeIs(withBells(2, 2, 1, 1, 3, 3, 4, 4), 3, 1, 1);
+        agreeIs(withBells(2, 2, 3, 3, 4, 4, 1, 1), 3, 1, 1);
+        agreeIs(withBells(1, 1, 2, 2, 3, 3, 3, 3), 2, 3, 3);
+        agreeIs(withBells(9, 9, 9, 9, 1, 1, 2, 2), 2, 9, 9);
         CHECKS.due("25: BAD", new BishopsPeace().agree(3), -2);
         CHECKS.due("25: BAD", new BishopsPeace().agree(-1), -2);
     }
@@ -122,6 +131,7 @@ public final class HomeTest {
         middleIs(withBells(0, 23, 10, 3, 20, 3, 5, 9), 25 + 26, 5, 3);
         middleIs(withBells(0, 0, 0, 0, 23, 23, 23, 23), 92, 0, 0);
         middleIs(withBells(1, 4, 2, 3, 3, 2, 4, 1), 8, 2, 2);
+        middleIs(withBells(1, 2, 1, 2, 1, 2, 1, 2), 0, 1, 2);
         middleIs(withBells(23, 0, 23, 0, 23, 0, 0, 23), 46, 23, 0);
         CHECKS.due("26: BAD", new BishopsPeace().middle(3), -2);
         CHECKS.due("26: BAD", new BishopsPeace().middle(-1), -2);

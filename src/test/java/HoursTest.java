@@ -92,6 +92,10 @@ public final class HoursTest {
         CHECKS.due("17: best(0)", x.best(0), 3);
         x.lent(8);
         CHECKS.due("17: of like ones the first", x.best(0), 0);
+        x.lent(5);
+        CHECKS.due("17: the last week", x.best(0), 3);
+        x.lent(13);
+        CHECKS.due("17: the second week", x.best(0), 1);
         x.land(0, 1, 1);
         CHECKS.due("16: sworn", x.left(1, 0), 0);
         CHECKS.due("17: none is 0", x.best(0), 0);
@@ -128,6 +132,15 @@ public final class HoursTest {
             {1, 2, 0, 7}, {1, 2, 1, 0}, {2, 1, 1, 0}, {6, 7, 0, 1}, {7, 6, 1, 6}, {0, 6, 0, -1}, {0, 6, 1, -1}, {4, 5, 0, -1}};
         for (int[] c : calls) {
             CHECKS.due("19: way(" + c[0] + ", " + c[1] + ", " + c[2] + ")", x.way(c[0], c[1], c[2]), c[3]);
+        }
+        for (int by = 0; by < 8; by++) {
+            int from = (by + 1) % 8;
+            int to = (by + 2) % 8;
+            String letters = "abcdefgh";
+            char middle = letters.charAt(by);
+            BishopsPeace two = Checks.withRoads("" + letters.charAt(from) + middle + "4;" + middle + letters.charAt(to) + 5);
+            CHECKS.due("19: by land " + by, two.way(from, to, 0), 9);
+            CHECKS.due("19: by land " + by, two.way(to, from, 1), by);
         }
         BishopsPeace like = Checks.withRoads("ah1;hb2;ag2;gb1;ac2;cb1;ab3");
         CHECKS.due("19: of like ways the least", like.way(0, 1, 1), 1);

@@ -105,9 +105,12 @@ public final class RoadsTest {
         for (int[] b : bad) {
             CHECKS.due("7: land(" + b[0] + ", " + b[1] + ", " + b[2] + ")", x.land(b[0], b[1], b[2]), -2);
         }
-        x.land(1, 1, 1);
-        x.land(5, 1, 1);
-        CHECKS.due("37: sworn lands", x.count(4), 2);
+        for (int land = 0; land < 8; land++) {
+            x.land(land, 1, 1);
+            CHECKS.due("37: sworn lands", x.count(4), land + 1);
+        }
+        x.land(5, 1, 0);
+        CHECKS.due("37: sworn lands", x.count(4), 7);
     }
 
     private static void bells() {
