@@ -42,6 +42,10 @@ public final class HomeTest {
         }
         homeIs("six lands between", x, call(0, 7, 30), 11390625, 16777216, 7, 0, 1, 2, 3, 4, 5, 6, 7);
         homeIs("the other way", x, call(7, 0, 30), 11390625, 16777216, 7, 7, 6, 5, 4, 3, 2, 1, 0);
+        // HOUR 672 would be a MONDAY's first, with war by a bell at 0.
+        x.bell(0, 0, 0);
+        homeIs("HOUR 672 is peace, too", x, call(0, 2, 671), 1, 1, 2, 0, 1, 2);
+        homeIs("HOUR 0 is war", x, call(0, 2, 0), 15, 16, 2, 0, 1, 2);
         BishopsPeace end = Checks.withRoads("ab9;bc9;cd9;de9;ef9;fg9;gh9");
         homeIs("beyond HOUR 671 there is peace", end, call(0, 7, 671), 1, 1, 63, 0, 1, 2, 3, 4, 5, 6, 7);
     }

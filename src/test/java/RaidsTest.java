@@ -92,6 +92,8 @@ public final class RaidsTest {
         CHECKS.due("22: 301 are more than a week's", x.siege(0, 6, 301, 0), 217);
         CHECKS.due("22: behind the last war", x.siege(0, 570, 7, 0), -1);
         CHECKS.due("22: all are left", x.siege(0, 570, 7, 1), 7);
+        // 999, 699, 915, 615, 831, 531, 747, 447, and 102 HOURS of peace by 2.
+        CHECKS.due("22: mended to HOUR 671, no further", x.siege(0, 6, 999, 1), 651);
         x.set(1, 0);
         CHECKS.due("22: nothing is mended", x.siege(0, 6, 301, 0), 174);
         x.set(1, 1);

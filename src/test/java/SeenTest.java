@@ -64,7 +64,6 @@ public final class SeenTest {
         for (int seed : new int[] {Integer.MIN_VALUE, Integer.MAX_VALUE, 123456789, -987654321}) {
             CHECKS.due("30: season(" + seed + ", 0)", x.season(seed, 0), seasonOf(seed));
         }
-        // By SEED 7 the lots are worked out in the shared runs, too: a land with a feast less.
         CHECKS.due("30: the feasts are as before", x.count(2), 0);
         x.lent(15);
         CHECKS.due("30: LENT", x.season(7, 0), 0);
