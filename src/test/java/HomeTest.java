@@ -64,6 +64,8 @@ public final class HomeTest {
         BishopsPeace like = Checks.withRoads("ah1;hd2;ac2;cd1;ad3");
         homeIs("of like ones the least row", like, call(0, 3, 100), 1, 1, 3, 0, 2, 3);
         homeIs("a way without a land between", like, call(0, 3, 30), 1, 1, 3, 0, 3);
+        BishopsPeace direct = Checks.withRoads("ad3;ab1;bd2");
+        homeIs("the least row is longer, and found later", direct, call(0, 3, 100), 1, 1, 3, 0, 1, 3);
         BishopsPeace lost = Checks.withRoads("ab1;bd2;ac1;cd1");
         lost.land(1, 2, 16);
         lost.land(2, 2, 16);
@@ -82,6 +84,18 @@ public final class HomeTest {
         homeIs("a round way that comes in peace", round, call(0, 2, 60), 1, 1, 19, 0, 3, 1, 2);
         round.bell(0, 1, 23);
         homeIs("d in war, b in peace is no better", round, call(0, 2, 60), 3, 4, 2, 0, 1, 2);
+    }
+
+    private static void roadsThatAreGone() {
+        BishopsPeace x = Checks.withRoads("ab1;bc1");
+        x.type(';');
+        homeIs("a FAULT leaves no road", x, call(0, 1, 30), 0, 1, -1);
+        x.wipe();
+        homeIs("wiped", x, call(0, 1, 30), 0, 1, -1);
+        Checks.typeAll(x, "bc1");
+        homeIs("fewer roads than before", x, call(0, 1, 30), 0, 1, -1);
+        Checks.typeAll(x, ";cd1;de1;ef1;fg1;gh1;bd9;ce9;df9;eg9;fh9;ab1");
+        homeIs("twelve roads", x, call(0, 2, 30), 3, 4, 2, 0, 1, 2);
     }
 
     private static void badHomes() {
@@ -146,6 +160,7 @@ public final class HomeTest {
         longest();
         choices();
         detours();
+        roadsThatAreGone();
         badHomes();
         agreeing();
         middles();
