@@ -63,8 +63,48 @@ public final class DigestTest {
         digestIsTold("one hour of war", x);
     }
 
+    // 49 HOURS of war from HOUR 7 on, one more from 6 on: 2 times 49 are one less than 99 STONES.
+    private static void holdsFromHour7() {
+        BishopsPeace x = new BishopsPeace();
+        x.bell(0, 1, 8);
+        x.lent(14);
+        x.set(0, 2);
+        CHECKS.due("38: 99 STONES hold from HOUR 7 on", x.holds(0, 7, 99), 0);
+        CHECKS.due("38: 98 do not", x.holds(0, 7, 98), -1);
+        CHECKS.due("38: nor from HOUR 6 on", x.holds(0, 6, 99), -1);
+        digestIsTold("99 STONES hold from HOUR 7 on", x);
+    }
+
+    // Two HOURS of war in all: a raid of 2 may be, of 3 not.
+    private static void raidsOfTwo() {
+        BishopsPeace x = Checks.withRoads("ab1");
+        x.bell(0, 0, 22);
+        x.feast(1);
+        x.feast(2);
+        x.lent(14);
+        CHECKS.due("38: a raid of 2", x.raid(0, 1, 2, 0), 21);
+        CHECKS.due("38: a raid of 3", x.raid(0, 1, 3, 0), -1);
+        digestIsTold("raids of 2", x);
+    }
+
+    // From HOUR 30 on d is 18 HOURS from b: WEDNESDAY's first HOUR, in which by its BELL at 0 (1) there is peace (war).
+    private static void homeFromHour30() {
+        for (int bell = 0; bell <= 1; bell++) {
+            BishopsPeace x = Checks.withRoads("ab1;bc9;cd9;de1;ea1");
+            x.bell(0, 1, bell);
+            x.land(2, 2, 0);
+            x.land(1, 2, 8);
+            CHECKS.due("38: by c in peace, by e in war", x.home(3, 0, 30, 1), bell == 0 ? 2 : 4);
+            CHECKS.due("38: the other hour", x.home(3, 0, bell == 0 ? 29 : 31, 1), bell == 0 ? 4 : 2);
+            digestIsTold("home from HOUR 30 on", x);
+        }
+    }
+
     public static void main(String[] args) {
         fewHours();
+        holdsFromHour7();
+        raidsOfTwo();
+        homeFromHour30();
         BishopsPeace x = new BishopsPeace();
         digestIsTold("a new object", x);
         Checks.typeAll(x, "ab1;bc2;ch3;hg4;ad9;de2");

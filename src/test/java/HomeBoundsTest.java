@@ -116,6 +116,33 @@ public final class HomeBoundsTest {
         homeIs("all come in WAR", y, call(0, 7, 30), 3, 4, 2, 0, 6, 7);
     }
 
+    // "(no LAND twice ...)": by a LAND aside, to and fro, it would come to b in PEACE.
+    private static void noLandTwice() {
+        for (char from : "adefgh".toCharArray()) {
+            char aside = from == 'h' ? 'a' : 'h';
+            BishopsPeace first = Checks.withRoads(from + "b1;bc1;" + from + aside + "9");
+            homeIs("not back to the first LAND", first, call(from - 'a', 2, 60), 3, 4, 2, from - 'a', 1, 2);
+        }
+        for (char between : "adefg".toCharArray()) {
+            BishopsPeace later = Checks.withRoads("h" + between + "1;" + between + "b1;bc1;" + between + (between == 'a' ? "d9" : "a9"));
+            later.land(between - 'a', 1, 1);
+            later.land(between == 'a' ? 3 : 0, 1, 1);
+            homeIs("not back to a later LAND", later, call(7, 2, 60), 3, 4, 3, 7, between - 'a', 1, 2);
+        }
+    }
+
+    // Nothing of an earlier way is left, where there is none.
+    private static void noWayBehindOne() {
+        BishopsPeace x = Checks.withRoads("ab1;bc1");
+        homeIs("a way", x, call(0, 2, 30), 3, 4, 2, 0, 1, 2);
+        homeIs("none behind it", x, call(0, 3, 30), 0, 1, -1);
+        x.wipe();
+        homeIs("wiped", x, call(0, 2, 30), 0, 1, -1);
+        Checks.typeAll(x, "bc1");
+        homeIs("fewer ROADS", x, call(0, 1, 30), 0, 1, -1);
+        homeIs("the one that is left", x, call(2, 1, 30), 1, 1, 1, 2, 1);
+    }
+
     // "of like ones that of fewest HOURS": one HOUR less, by a greater row.
     private static void fewestHours() {
         BishopsPeace x = Checks.withRoads("ab2;bh2;ag2;gh1");
@@ -211,6 +238,8 @@ public final class HomeBoundsTest {
     private static void middleNoneToMost() {
         middleIs(new BishopsPeace(), 0, 6, 18);
         middleIs(withBells(0, 0, 0, 0, 0, 0, 0, 0), 0, 0, 0);
+        middleIs(withBells(1, 22, 1, 22, 1, 22, 1, 22), 0, 1, 22);
+        middleIs(withBells(22, 1, 22, 1, 22, 1, 22, 1), 0, 22, 1);
         middleIs(withBells(23, 23, 23, 23, 23, 23, 23, 23), 0, 23, 23);
         middleIs(withBells(0, 23, 23, 0, 0, 23, 23, 0), 92, 0, 0);
         middleIs(withBells(0, 23, 23, 23, 23, 23, 23, 0), 46, 23, 23);
@@ -236,9 +265,11 @@ public final class HomeBoundsTest {
         inTheHour();
         beyondTheLastHour();
         sevenRoads();
+        noLandTwice();
         fewestHours();
         leastRow();
         noWay();
+        noWayBehindOne();
         agreeNoneToThree();
         agreeLeast();
         middleNoneToMost();

@@ -296,6 +296,23 @@ public final class HoursBoundsTest {
         CHECKS.due("19: of three, back", between.way(1, 7, 1), 0);
     }
 
+    // Ways of two ROADS by every LAND, 0 and 7 too, between every two others.
+    private static void waysByEveryLand() {
+        for (int by = 0; by < 8; by++) {
+            for (int from = 0; from < 8; from++) {
+                int to = (from + 3) % 8;
+                if (from != by && to != by) {
+                    String roads = "" + (char) ('a' + from) + (char) ('a' + by) + "9;" + (char) ('a' + to) + (char) ('a' + by) + 8;
+                    BishopsPeace x = Checks.withRoads(roads);
+                    CHECKS.due("19: HOURS by " + by, x.way(from, to, 0), 17);
+                    CHECKS.due("19: next is " + by, x.way(from, to, 1), by);
+                    CHECKS.due("19: HOURS back", x.way(to, from, 0), 17);
+                    CHECKS.due("19: next back", x.way(to, from, 1), by);
+                }
+            }
+        }
+    }
+
     // "read ...: its items, two for each, as long as each may be, eight at most: how many": 0 to 9 items, a stop at each.
     private static void readItems() {
         for (int items = 0; items <= 9; items++) {
@@ -353,6 +370,7 @@ public final class HoursBoundsTest {
         everyBest();
         unlikeAtLeastAndMost();
         ways();
+        waysByEveryLand();
         readItems();
         readWideItems();
         CHECKS.end();

@@ -4,7 +4,8 @@ import java.util.Random;
 
 /** Random runs of calls: the class and the plain model must answer alike, whatever the arguments. */
 public final class ModelTest {
-    private static final int RUNS = 300, CALLS = 400;
+    // An object answers 512 calls; the dearest step of a run makes some 130, and the digest is the last.
+    private static final int RUNS = 1000, CALLS = 512 - 135;
     private static final int[] WILD = {Integer.MIN_VALUE, Integer.MIN_VALUE + 1, -1000, -5, -4, -3, -2, -1, 0, 1, 2, 3, 4,
         5, 7, 8, 9, 10, 12, 15, 16, 17, 23, 24, 27, 28, 47, 48, 59, 60, 61, 99, 100, 255, 256, 671, 672, 999, 1000,
         Integer.MAX_VALUE - 1, Integer.MAX_VALUE};
@@ -21,6 +22,7 @@ public final class ModelTest {
     private final BishopsPeace real = new BishopsPeace();
     private final PlainModel model = new PlainModel();
     private final StringBuilder before = new StringBuilder();
+    private int calls = 0;
 
     private ModelTest(long seed, Checks checks) {
         this.lots = new Random(seed);
@@ -35,6 +37,7 @@ public final class ModelTest {
         Method ofModel = PlainModel.class.getDeclaredMethod(name, types);
         long got = ((Number) of.invoke(real, given)).longValue();
         long want = ((Number) ofModel.invoke(model, given)).longValue();
+        calls++;
         String call = name + Arrays.toString(args);
         before.append(call).append(' ');
         checks.due(call + (got == want ? "" : " behind " + before), got, want);
@@ -130,9 +133,9 @@ public final class ModelTest {
 
     private void run() throws Exception {
         roads();
-        for (int k = 0; k < CALLS; k++) {
+        while (calls < CALLS) {
             int lot = lots.nextInt(60);
-            if (lot == 0 || real.count(0) == 0 && lot < 10) {
+            if (lot == 0 || model.count(0) == 0 && lot < 10) {
                 roads();
             } else if (lot == 1) {
                 sheetCalls();
@@ -143,6 +146,7 @@ public final class ModelTest {
             }
         }
         both("digest");
+        checks.holds("at most 512 calls, not " + calls, calls <= 512);
     }
 
     public static void main(String[] args) throws Exception {

@@ -35,6 +35,20 @@ public final class SheetsBoundsTest {
         }
     }
 
+    // "in a LAND": each of them, by one that alone is SWORN.
+    private static void everyLandSeen() {
+        for (int land = 0; land < 8; land++) {
+            BishopsPeace x = new BishopsPeace();
+            x.land(land, 1, 1);
+            x.seen(12, land, 0);
+            CHECKS.due("29: PEACE in " + land + " on all DAYS", x.which(), ALL_DAYS);
+            x.seen(12, (land + 1) % 8, 1);
+            CHECKS.due("29: WAR in another one", x.which(), 7 * MONDAYS);
+            x.seen(12, land, 1);
+            CHECKS.due("29: WAR in " + land + " on none", x.which(), 0);
+        }
+    }
+
     // "in an HOUR of it (0 to 23) there was WAR in a LAND (1), or none (0)": every HOUR, in both ways.
     private static void everyHourSeen() {
         for (int hour = 0; hour < 24; hour++) {
@@ -347,6 +361,7 @@ public final class SheetsBoundsTest {
     public static void main(String[] args) {
         sixSeen();
         eachOfSix();
+        everyLandSeen();
         everyHourSeen();
         whichDays();
         lotsThatWrap();
