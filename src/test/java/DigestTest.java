@@ -37,30 +37,33 @@ public final class DigestTest {
         return h;
     }
 
+    // To tell it takes some two hundred calls, and an object answers 512: so each is told once, of an object of its own.
     private static void digestIsTold(String why, BishopsPeace x) {
-        CHECKS.due("38: " + why, x.digest(), new DigestTest().told(x));
-        CHECKS.due("38: once more, " + why, x.digest(), new DigestTest().told(x));
+        long due = new DigestTest().told(x);
+        CHECKS.due("38: " + why, x.digest(), due);
+        CHECKS.due("38: once more, " + why, x.digest(), due);
+    }
+
+    private static BishopsPeace withFewHours(int breaks, int mondaysBell) {
+        BishopsPeace x = Checks.withRoads("ab1;bc1");
+        x.feast(1);
+        x.feast(2);
+        x.lent(14);
+        x.set(0, breaks);
+        x.set(1, 0);
+        x.bell(0, 0, mondaysBell);
+        return x;
     }
 
     // States in which each number that the digest's calls are given tells: 11 or 17 HOURS of war in all, or one a WEEK.
     private static void fewHours() {
-        BishopsPeace x = Checks.withRoads("ab1;bc1");
-        x.land(1, 1, 1);
-        digestIsTold("land 1 is sworn", x);
-        x.land(1, 1, 0);
-        x.feast(1);
-        x.feast(2);
-        x.lent(14);
-        x.set(0, 6);
-        x.set(1, 0);
-        digestIsTold("17 hours of war from HOUR 7 on", x);
-        x.set(0, 1);
-        digestIsTold("stones are left", x);
-        x.set(0, 9);
-        x.bell(0, 0, 13);
-        digestIsTold("11 hours of war", x);
-        x.bell(0, 0, 23);
-        digestIsTold("one hour of war", x);
+        BishopsPeace sworn = Checks.withRoads("ab1;bc1");
+        sworn.land(1, 1, 1);
+        digestIsTold("land 1 is sworn", sworn);
+        digestIsTold("17 hours of war from HOUR 7 on", withFewHours(6, 6));
+        digestIsTold("stones are left", withFewHours(1, 6));
+        digestIsTold("11 hours of war", withFewHours(9, 13));
+        digestIsTold("one hour of war", withFewHours(9, 23));
     }
 
     // 49 HOURS of war from HOUR 7 on, one more from 6 on: 2 times 49 are one less than 99 STONES.
@@ -100,18 +103,8 @@ public final class DigestTest {
         }
     }
 
-    public static void main(String[] args) {
-        fewHours();
-        holdsFromHour7();
-        raidsOfTwo();
-        homeFromHour30();
-        BishopsPeace x = new BishopsPeace();
-        digestIsTold("a new object", x);
-        Checks.typeAll(x, "ab1;bc2;ch3;hg4;ad9;de2");
-        digestIsTold("with roads", x);
-        x.type(';');
-        digestIsTold("with a FAULT", x);
-        x.undo();
+    private static BishopsPeace withBellsAndLands() {
+        BishopsPeace x = Checks.withRoads("ab1;bc2;ch3;hg4;ad9;de2");
         x.bell(1, 0, 3);
         x.bell(2, 1, 5);
         x.bell(3, 0, 22);
@@ -120,7 +113,11 @@ public final class DigestTest {
         x.land(3, 0, 3);
         x.land(4, 1, 1);
         x.land(1, 2, 9);
-        digestIsTold("with bells and lands", x);
+        return x;
+    }
+
+    private static BishopsPeace withAll() {
+        BishopsPeace x = withBellsAndLands();
         x.feast(2);
         x.feast(15);
         x.lent(2);
@@ -128,12 +125,33 @@ public final class DigestTest {
         x.set(1, 1);
         x.seen(7, 1, 1);
         x.seen(9, 2, 0);
-        digestIsTold("with feasts, LENT, a siege, what was seen", x);
+        return x;
+    }
+
+    private static void moreAndMore() {
+        digestIsTold("a new object", new BishopsPeace());
+        digestIsTold("with roads", Checks.withRoads("ab1;bc2;ch3;hg4;ad9;de2"));
+        digestIsTold("with a FAULT", Checks.withRoads("ab1;bc2;ch3;hg4;ad9;de2;"));
+        digestIsTold("with bells and lands", withBellsAndLands());
+        digestIsTold("with feasts, LENT, a siege, what was seen", withAll());
+    }
+
+    private static void sheetsAside() {
+        BishopsPeace x = withAll();
         long before = x.digest();
         x.sheet(0, 0, 5);
         x.lay(0, 1, 0, 5);
         CHECKS.due("38: sheets and findings aside", x.digest(), before);
         CHECKS.due("38: the finding stays", x.count(8), 3);
+    }
+
+    public static void main(String[] args) {
+        moreAndMore();
+        sheetsAside();
+        fewHours();
+        holdsFromHour7();
+        raidsOfTwo();
+        homeFromHour30();
         CHECKS.end();
     }
 }
