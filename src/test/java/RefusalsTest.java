@@ -4,7 +4,8 @@ import java.util.List;
 
 /**
  * "Refusals, the first that fits, in the order told at each act ... They change nothing (FINDINGS but count() 8)":
- * every refusal of every promise, in every state in which it is due, beside a like object that was not called.
+ * every refusal of every promise beside a like object that was not called; one number not as told is BAD in every state of
+ * States, the other refusals are made in a state or two in which they are due.
  */
 public final class RefusalsTest {
     private static final Checks CHECKS = new Checks("RefusalsTest");
